@@ -815,7 +815,7 @@ public final class EverybodyHasTheBook {
                 case SHORTS: return (short) v;
                 case INTS: return (int) v;
                 case BOOLEANS: return v != 0 ? 1 : 0;
-                default: return v;
+                case LONGS: default: return v;
             }
         }
     }

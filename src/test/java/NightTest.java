@@ -6,6 +6,7 @@ public final class NightTest {
         night();
         lateOnesAreLast();
         joyWhereNobodyIsFull();
+        sixOfEach();
         crowd();
         lean();
         truest();
@@ -138,6 +139,39 @@ public final class NightTest {
         Due.is("26 no inns", none.full(), 0);
     }
 
+    private static void sixOfEach() {
+        EverybodyHasTheBook x = new EverybodyHasTheBook();
+        for (int k = 0; k < 6; k++) {
+            x.inn(50 + k, 5, 60 - 10 * k);
+            x.goer(0, 6, 0);
+        }
+        for (int k = 0; k < 5; k++) {
+            Due.is("23 five of six, " + k, x.sleeps(k, 5 - k), 5 - k);
+            Due.is("23 the rest, " + k, x.sleeps(k, 4 - k), k + 1);
+        }
+        Due.is("24 all beds", x.guests(0), 5);
+        Due.is("25 the last ones", x.out(5), 6);
+        Due.is("25 of all six", x.out(-1), 6);
+        Due.is("26 all", x.full(), 63);
+        int joy = 5 * (55 - 10) + 5 * (54 - 20) + 5 * (53 - 30) + 5 * (52 - 40) + 5 * (51 - 50) + 5 * (50 - 60);
+        Due.is("27 joy", x.joy(-1), joy - 30 * 20 - 6 * 30);
+        Due.is("28 taken", x.taken(0), 300);
+        Due.is("38 two", x.two(63, 0), x.joy(-1));
+        Due.is("40 years", x.years(1, -1), x.joy(-1));
+        Due.is("42 book", x.book(1, 6), 0);
+        Due.is("44 many", x.many(1), 0);
+        Due.is("45 round", x.round(1, 0), -1);
+        Due.is("58 in the book", x.write(63) * 100 + x.status(3), 663);
+        Due.is("58 rooms", x.status(4), 30);
+        Due.is("58 heads", x.status(5), 36);
+        Due.is("46 kept", x.kept(1, 5), 0);
+        Due.is("52 year", x.year(), joy - 780);
+        Due.is("52 the last inn", x.innOf(5, 0), 49);
+        EverybodyHasTheBook late = Due.of("inn 50 9 0; goer 5 5 0; goer 0 1 0; goer 0 1 0; goer 0 1 0; goer 0 1 0; goer 3 3 0");
+        Due.is("23 the first of six is the last", late.sleeps(0, 0), 2);
+        Due.is("23 the last of six is ahead of it", late.sleeps(5, 0), 3);
+    }
+
     private static void crowd() {
         EverybodyHasTheBook x = Due.of("inn 80 1 30; inn 60 1 10 said 90;"
             + "goer 0 1 0; goer 1 2 0; goer 2 4 50; goer 3 8 0; goer 4 16 1; goer 5 30 0");
@@ -198,6 +232,9 @@ public final class NightTest {
         Due.is("32 farthest below", x.oldest(), 1);
         x.age(30);
         Due.is("32 whatever the age", x.oldest(), 1);
+        x.say(0, 0);
+        Due.is("32 the first inn", x.oldest(), 0);
+        x.say(0, -1);
         x.change(1, 0, 49);
         Due.is("32 of good, not of base", x.oldest(), 2);
     }
@@ -239,6 +276,9 @@ public final class NightTest {
         Due.is("34 goer 2", x.better(2), -2);
         Due.is("34 goer -1", x.better(-1), -2);
         Due.is("34 refused", x.status(12), 2);
+        EverybodyHasTheBook sad = Due.of("inn 40 9 60; inn 90 9 95; goer 0 2 0");
+        Due.is("34 the least sad", sad.better(0), 3);
+        Due.is("34 out anyway", Due.of("goer 3 2 0").better(0), 0);
         EverybodyHasTheBook more = Due.of("inn 40 9 0 said 50; inn 100 9 51; inn 90 9 60; goer 0 2 2");
         Due.is("34 a as it is: 48 or 49", more.better(0), 2);
         EverybodyHasTheBook letters = Due.of("inn 40 9 0; inn 60 9 0; goer 0 2 1; letter 1 5");
@@ -269,6 +309,8 @@ public final class NightTest {
         Due.is("35 by letters", x.trust(2), 99);
         x.say(0, 41);
         x.say(1, 40);
+        EverybodyHasTheBook young = Due.of("inn 80 1 70; inn 60 1 10 said 1; goer 1 1 0");
+        Due.is("35 as long as it is new", young.trust(1), 0);
         EverybodyHasTheBook only = Due.of("inn 80 1 45; inn 60 1 10 said 90; goer 2 1 5");
         Due.is("35 against, less a: 85 - 2 age > 55", only.trust(1), 14);
         only.age(50);
@@ -287,6 +329,8 @@ public final class NightTest {
         Due.is("36 all", x.share(1), 100);
         Due.is("36 goer 2", x.share(2), -2);
         Due.is("36 goer -1", x.share(-1), -2);
+        x.heads(1, 1);
+        Due.is("36 a single one", x.share(1), 100);
         EverybodyHasTheBook none = Due.of("goer 0 3 0");
         Due.is("36 bad ahead of stuck", none.share(1), -2);
         Due.is("36 no inns", none.share(0), -5);

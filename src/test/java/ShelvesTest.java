@@ -44,9 +44,12 @@ public final class ShelvesTest {
         Due.is("2 nothing refused stands", x.holds(1), -1);
         Due.is("2 refused", x.status(12), 6);
         x.row(2, 3, 40);
+        x.set(2, 0, 8);
         Due.is("2 last element", x.set(2, 39, 9), 1);
+        Due.is("5 behind the last element", x.element(2, 40), 0);
         Due.is("2 anew", x.row(2, 3, 40), 1);
         Due.is("2 a new row is 0", x.element(2, 39), 0);
+        Due.is("2 a new row is 0 in front", x.element(2, 0), 0);
         Due.is("2 smaller", x.row(2, 1, 3), 1);
         Due.is("2 its sort", x.holds(2), 1);
         Due.is("2 its size", x.set(2, 3, 1), -2);

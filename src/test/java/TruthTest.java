@@ -181,6 +181,9 @@ public final class TruthTest {
             Due.is("57 status " + what, x.status(what), due[what]);
         }
         Due.is("57 rows stay", x.element(4, 1), 8);
+        x.inn(1, 1, 1);
+        x.letter(1, 50);
+        x.say(1, 50);
         x.year();
         Due.is("57 again", x.back(), 1);
         Due.is("57 as it was kept", x.status(6), 1);
@@ -199,17 +202,20 @@ public final class TruthTest {
         x.show(1, 2);
         x.show(2, 1);
         x.show(7, 2);
+        x.show(4, 0);
+        x.show(0, 2);
         x.row(3, 0, 1);
         x.heads(1, 9);
         x.heads(0, 9);
-        Due.is("57 held ahead", x.status(9), 5);
+        Due.is("57 held ahead", x.status(9), 6);
         x.back();
-        Due.is("57 of the same number", x.holds(0), 10);
+        Due.is("57 of the same number", x.holds(4), 10);
+        Due.is("57 nothing on the first", x.holds(0), -1);
         Due.is("57 shown since, but there was one", x.holds(2), 11);
         Due.is("57 nothing", x.holds(1), -1);
         Due.is("57 nothing on the last", x.holds(7), -1);
         Due.is("57 rows stay", x.holds(3), 0);
-        Due.is("57 as they were", x.says(0, 0), 2);
+        Due.is("57 as they were", x.says(4, 0), 2);
         Due.is("57 as they were, the other", x.says(2, 0), 4);
         Due.is("57 says nothing", x.says(1, 0), -4);
         Due.is("57 held", x.status(9), 3);

@@ -218,6 +218,8 @@ public final class ValleyTest {
         x.change(0, 0, 50);
         x.letter(0, 4);
         Due.is("19 letter to one there was", Due.valley(x, "letter 0 6; inn 1 1 1; write 1 0; age 3; goer 2 2 2"), 5);
+        Due.is("19 a letter that says 0, one that says 100", Due.valley(x, "letter 1 0;letter 1 100"), 2);
+        Due.is("19 both", x.innOf(1, 5) * 1000 + x.innOf(1, 6), 2100);
         Due.is("19 letters", x.innOf(0, 5), 2);
         Due.is("19 together", x.innOf(0, 6), 10);
         Due.is("19 good of one there was", x.innOf(0, 4), 50);
@@ -251,6 +253,13 @@ public final class ValleyTest {
         fault("said 5", 0);
         fault("in 1 2 3", 0);
         fault("inns 1 2 3", 0);
+        fault("onn 1 2 3", 0);
+        fault("agez 5", 0);
+        fault("ageA 5", 3);
+        fault("age{5", 3);
+        fault("age`5", 3);
+        fault("age/5", 3);
+        fault("age 5:", 5);
         fault("Inn 1 2 3", 0);
         fault("age 5;;age 5", 6);
         fault("age 5 age 5", 6);

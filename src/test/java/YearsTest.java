@@ -118,6 +118,12 @@ public final class YearsTest {
         Due.is("42 one head", x.book(1, 3), 2);
         EverybodyHasTheBook same = Due.of("inn 10 5 50; goer 0 4 0");
         Due.is("42 all the same", same.book(12, 1), 0);
+        EverybodyHasTheBook first = Due.of("inn 30 9 90; inn 50 9 0 said 20; goer 2 1 20");
+        Due.is("42 better none than the first", first.book(1, 6), 0);
+        Due.is("42 joy by none", first.written(1, 0), 50);
+        first.change(0, 1, 0);
+        first.change(0, 0, 10);
+        Due.is("42 the first", first.book(1, 6), 1);
         EverybodyHasTheBook slow = Due.of("inn 50 4 0; inn 70 1 0; goer 1 1 0");
         Due.is("42 in one year: 50 or 50", slow.book(1, 6), 0);
         slow.change(1, 0, 71);
@@ -173,6 +179,12 @@ public final class YearsTest {
         Due.is("45 as it is", x.round(1, -1), 240);
         x.age(45);
         Due.is("45 age stays as it is", x.round(1, -1), -160);
+        EverybodyHasTheBook worse = Due.of("inn 30 9 90; inn 50 9 0 said 20; goer 1 1 0");
+        Due.is("45 better none than the first", worse.round(1, 0), -1);
+        Due.is("45 joy by none", worse.round(1, -1), 50);
+        EverybodyHasTheBook first = Due.of("inn 50 9 0; inn 10 9 50 said 20; goer 1 1 0");
+        Due.is("45 to the first inn", first.round(1, 0), 0);
+        Due.is("45 joy by the first", first.round(1, -1), 50);
         EverybodyHasTheBook none = Due.of("goer 1 2 0");
         Due.is("45 no inns", none.round(3, -1), -180);
         Due.is("45 no inns, the last", none.round(3, 2), -1);
@@ -212,6 +224,13 @@ public final class YearsTest {
         Due.is("46 it stays in the book", x.innOf(1, 4), 80);
         x.say(0, 0);
         Due.is("46 in the book with 0", x.kept(1, 0), 0);
+        EverybodyHasTheBook company = Due.of("inn 50 9 0; inn 80 2 0 said 80; goer 3 1 0; goer 1 1 0");
+        Due.is("46 own ones have it to themselves", company.kept(1, 1), 80 - 60);
+        // not in the book, inn 1 is what those against it want: its one bed, so own ones are out of it
+        EverybodyHasTheBook against = Due.of("inn 50 9 20; inn 80 1 0 said 1; goer 3 1 0; goer 2 1 0");
+        Due.is("46 own ones come first", against.kept(1, 1), 0);
+        EverybodyHasTheBook behind = Due.of("inn 50 9 20; inn 80 1 0 said 1; goer 2 1 0; goer 3 1 0");
+        Due.is("46 against are let in", behind.kept(1, 1), 30 - 60);
     }
 
     private static void called() {
@@ -270,6 +289,8 @@ public final class YearsTest {
         Due.is("49 a quiet one mends", x.bears(0, 0, 1, 43), 2);
         Due.is("49 behind each year", x.bears(0, 0, 2, 46), -1);
         Due.is("49 behind each of two", x.bears(0, 0, 2, 43), 2);
+        EverybodyHasTheBook small = Due.of("inn 50 2 20; goer 0 9 0");
+        Due.is("49 a single one", small.bears(0, 0, 12, 45), 1);
         Due.is("49 heads stay", x.goerOf(0, 1), 2);
         int[][] bad = {{1, 0, 1, 1}, {-1, 0, 1, 1}, {0, 1, 1, 1}, {0, -1, 1, 1}, {0, 0, 0, 1}, {0, 0, 13, 1},
             {0, 0, 1, -1}, {0, 0, 1, 101}};
@@ -303,6 +324,16 @@ public final class YearsTest {
         Due.is("50 by the price", x.recovers(2), 1);
         x.change(1, 1, 99);
         Due.is("50 never while full", x.recovers(2), -1);
+        // all that are booked are in inn 0, as long as nothing stands in the book
+        EverybodyHasTheBook booked = Due.of("inn 50 9 9; inn 60 1 0; goer 1 1 0; write 1");
+        booked.change(0, 0, 49);
+        booked.change(1, 0, 59);
+        Due.is("50 the second is quiet", booked.recovers(1), 1);
+        EverybodyHasTheBook turned = Due.of("inn 60 1 0; inn 50 9 9; goer 2 1 99; write 0");
+        turned.change(0, 0, 59);
+        turned.change(1, 1, 99);
+        Due.is("50 against go there by the price", turned.recovers(0), -1);
+        Due.is("50 they would not, by the book", turned.then(1, 0, 0), 60);
         Due.is("50 above base", Due.of("inn 5 1 1; goer 0 1 0").recovers(0), -1);
         EverybodyHasTheBook above = Due.of("inn 5 1 1; goer 0 1 0");
         above.change(0, 0, 11);
