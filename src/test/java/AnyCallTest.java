@@ -91,7 +91,7 @@ public final class AnyCallTest {
                 x.inn(draw(101), 1 + draw(20), draw(100));
                 x.goer(draw(6), 1 + draw(30), draw(100));
             }
-            for (int c = 0; c < 512; c++) {
+            for (int c = 0; c < 500; c++) {
                 call(x, face.get(draw(face.size())));
             }
         }

@@ -2,8 +2,11 @@ import java.lang.reflect.Method;
 
 /** Runs of calls by draws (always the same ones), on the class and on the Model: the answers are the same. */
 public final class RandomRunsTest {
-    private static final int RUNS = 200;
-    private static final int CALLS = 512;
+    private static final int RUNS = 400;
+    /** An object is used for 512 calls at most; compareState() makes 202 of them. */
+    private static final int CALLS = 310;
+
+    private static int calls;
 
     /** A call, how often it comes, and a range for each argument. */
     private static final String[] CALL_TABLE = {
@@ -89,6 +92,7 @@ public final class RandomRunsTest {
     }
 
     private static void both(int run, EverybodyHasTheBook x, Model m, String name, int... args) throws Exception {
+        calls++;
         long got = ((Number) call(x, name, args)).longValue();
         long want = ((Number) call(m, name, args)).longValue();
         Due.is("run " + run + ": " + name + java.util.Arrays.toString(args), got, want);
@@ -108,13 +112,17 @@ public final class RandomRunsTest {
         for (int i = 0; i < 6; i++) {
             for (int what = 0; what < 7; what++) {
                 both(run, x, m, "innOf", i, what);
+            }
+            for (int what = 0; what < 3; what++) {
                 both(run, x, m, "goerOf", i, what);
-                both(run, x, m, "sleeps", i, what);
+            }
+            for (int goer = 0; goer < 6; goer++) {
+                both(run, x, m, "sleeps", goer, i);
             }
         }
         for (int s = 0; s < 8; s++) {
             both(run, x, m, "holds", s);
-            for (int i = 0; i < 40; i++) {
+            for (int i = 0; i < 10; i++) {
                 both(run, x, m, "element", s, i);
             }
         }
@@ -123,7 +131,8 @@ public final class RandomRunsTest {
         }
     }
 
-    private static void run(int run, String[] calls) throws Exception {
+    private static void run(int run, String[] specs) throws Exception {
+        calls = 0;
         EverybodyHasTheBook x = new EverybodyHasTheBook();
         Model m = new Model();
         int inns = draw(0, 6);
@@ -134,12 +143,15 @@ public final class RandomRunsTest {
         for (int g = 0; g < goers; g++) {
             both(run, x, m, "goer", draw(0, 5), draw(1, 30), draw(0, 1) == 0 ? draw(0, 99) : draw(0, 4));
         }
-        for (int c = 0; c < CALLS; c++) {
+        while (calls < CALLS) {
             if (draw(0, 39) == 0) {
-                tellText(run, x, m, drawnText());
+                String text = drawnText();
+                if (calls + text.length() + 18 <= CALLS) {
+                    tellText(run, x, m, text);
+                }
                 continue;
             }
-            String[] spec = calls[draw(0, calls.length - 1)].split(" ");
+            String[] spec = specs[draw(0, specs.length - 1)].split(" ");
             int[] args = new int[spec.length - 2];
             for (int a = 0; a < args.length; a++) {
                 args[a] = argument(spec[a + 2]);
@@ -150,14 +162,14 @@ public final class RandomRunsTest {
     }
 
     public static void main(String[] args) throws Exception {
-        java.util.List<String> calls = new java.util.ArrayList<>();
+        java.util.List<String> specs = new java.util.ArrayList<>();
         for (String spec : CALL_TABLE) {
             for (int often = Integer.parseInt(spec.split(" ")[1]); often > 0; often--) {
-                calls.add(spec);
+                specs.add(spec);
             }
         }
         for (int r = 0; r < RUNS; r++) {
-            run(r, calls.toArray(new String[0]));
+            run(r, specs.toArray(new String[0]));
         }
         Due.end();
     }

@@ -336,8 +336,9 @@ public final class ValleyTest {
         for (int i = 0; i < 49; i++) {
             longText.append(";age ");
         }
-        Due.is("19 a full tape", Due.valley(x, longText.toString()), -30);
-        Due.is("19 no reading of an empty tape", x.valley(), -20);
+        EverybodyHasTheBook full = new EverybodyHasTheBook();
+        Due.is("19 a full tape", Due.valley(full, longText.toString()), -30);
+        Due.is("19 no reading of an empty tape", full.valley(), -20);
         StringBuilder many = new StringBuilder("age 7");
         for (int i = 0; i < 49; i++) {
             many.append(";age").append(i % 10);
