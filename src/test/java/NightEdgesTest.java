@@ -291,6 +291,10 @@ public final class NightEdgesTest {
         Due.is("23 LATE ones alone, the first", all.sleeps(0, 0), 2);
         Due.is("23 LATE ones alone, the second", all.sleeps(1, 0), 1);
         Due.is("25 LATE ones alone, the third", all.out(2), 2);
+        EverybodyHasTheBook six = Due.of("inn 50 9 0;goer 5 5 0;goer 0 1 0;goer 1 1 0;goer 2 1 0;goer 3 1 0;goer 4 4 0");
+        Due.is("23 the first of six comes last", six.sleeps(0, 0), 1);
+        Due.is("25 the first of six is OUT", six.out(0), 4);
+        Due.is("23 the last of six is ahead of it", six.sleeps(5, 0), 4);
         Due.is("25 a single LATE one", Due.of("inn 50 1 0;goer 5 1 0").out(0), 0);
     }
 

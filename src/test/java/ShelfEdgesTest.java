@@ -298,6 +298,23 @@ public final class ShelfEdgesTest {
         Due.is("5 no ROW where one was, NOTHING", x.element(0, 1), 0);
         x.row(0, 3, 1);
         Due.is("5 none in a smaller ROW", x.element(0, 1), 0);
+        Edge.of("5 i of 40", ShelfEdgesTest::forty, (y, v) -> y.element(7, v)).least(0, 7).most(39, 9).elseUnrefused(0);
+        Edge.of("5 i of none", () -> rowOf(0), (y, v) -> y.element(7, v)).least(0, 0).most(0, 0).elseUnrefused(0);
+        Edge.of("3 i of 40", ShelfEdgesTest::forty, (y, v) -> y.set(7, v, 5)).least(0, 1).most(39, 1).elseRefused(-2);
+        Edge.refused("3 i of none", () -> rowOf(0), y -> y.set(7, 0, 5), -2);
+    }
+
+    private static EverybodyHasTheBook rowOf(int size) {
+        EverybodyHasTheBook x = new EverybodyHasTheBook();
+        x.row(7, 2, size);
+        return x;
+    }
+
+    private static EverybodyHasTheBook forty() {
+        EverybodyHasTheBook x = rowOf(40);
+        x.set(7, 0, 7);
+        x.set(7, 39, 9);
+        return x;
     }
 
     private static void holdsRefusesNothing() {

@@ -319,6 +319,8 @@ public final class TruthEdgesTest {
         EverybodyHasTheBook x = new EverybodyHasTheBook();
         Due.is("56 an empty one", x.image(), 1);
         x.inn(50, 1, 1);
+        x.letter(0, 50);
+        x.say(0, 50);
         x.goer(0, 1, 0);
         x.show(0, 0);
         Due.is("57 back to an empty one", x.back(), 1);
@@ -327,7 +329,10 @@ public final class TruthEdgesTest {
         Due.is("57 NOTHING", x.holds(0), -1);
         Due.is("57 of number 0 there is nothing", x.innOf(0, 0), -2);
         Due.is("57 numbers, 0 on", x.inn(9, 9, 9), 0);
-        Due.is("57 as new", x.innOf(0, 4), -1);
+        int[] fresh = {9, 9, 9, 9, -1, 0, 0};
+        for (int what = 0; what < 7; what++) {
+            Due.is("57 as new, what " + what, x.innOf(0, what), fresh[what]);
+        }
         EverybodyHasTheBook six = Edge.six();
         six.image();
         Due.is("57 back to six", six.back(), 1);

@@ -477,6 +477,19 @@ public final class ValleyEdgesTest {
         fault("inn;1 1 1", 3);
         fault("inn 1;1 1", 5);
         fault("INN 1 1 1", 0);
+        String[] whole = {"inn 1 1 1", "goer 1 1 1", "letter 1 1", "age 1", "write 1"};
+        for (String text : whole) {
+            comes(text, 1);
+            int end = text.indexOf(' ');
+            for (int i = 0; i < end; i++) {
+                fault(text.substring(0, i) + "x" + text.substring(i + 1), 0);
+                fault(text.substring(0, i) + text.substring(i + 1), 0);
+            }
+            fault(text.substring(0, end) + "s" + text.substring(end), 0);
+        }
+        for (int i = 0; i < 4; i++) {
+            fault("inn 1 1 1 " + "said".substring(0, i) + "x" + "said".substring(i + 1) + " 1", 10);
+        }
         fault("1 inn", 0);
         fault("age 1,age 1", 5);
         comes("inn1 1 1said1;goer1 1 1;letter2 1;age1;write0 1", 5);

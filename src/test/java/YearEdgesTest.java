@@ -103,6 +103,15 @@ public final class YearEdgesTest {
         }
         Due.is("42 all the same: the least as bits", Due.of("inn 50 9 1;inn 50 9 1;goer 1 1 0").book(1, 6), 0);
         Due.is("42 nobody: the least as bits", Due.of("inn 50 9 1;inn 50 9 1").book(12, 6), 0);
+        EverybodyHasTheBook first = Due.of("inn 10 9 0;inn 50 9 0;inn 10 9 0 said 99;goer 2 1 60");
+        Due.is("42 the first INN alone is a set", first.written(1, 1), 50);
+        Due.is("42 none: by the PRICE to the first", first.written(1, 0), 10);
+        Due.is("42 the first one out of the way", first.book(1, 6), 1);
+        Due.is("44 one", first.many(1), 1);
+        // the one AGAINST goes to INN 2 by {0, 1} and by {2} alike
+        EverybodyHasTheBook fewest = Due.of("inn 50 1 30;inn 40 2 40;inn 90 1 40;goer 2 1 0");
+        Due.is("42 of several the least as bits, not the fewest", fewest.book(1, 6), 3);
+        Due.is("44 the fewest", fewest.many(1), 1);
         EverybodyHasTheBook all = allSix();
         Due.is("42 all six", all.book(1, 6), 63);
         Due.is("42 five at most do nothing", all.book(1, 5), 0);
@@ -216,6 +225,14 @@ public final class YearEdgesTest {
         Edge.of("46 INN", YearEdgesTest::writtenBusy, (x, v) -> x.kept(1, v)).least(0, 60 - 102).most(2, 0).elseRefused(DEEP);
         Due.is("46 SAID 0 is in the BOOK", saidZero().kept(12, 0), 0);
         Due.is("46 no OWN ones", writtenSteady().kept(12, 0), 0);
+        // a BOOKED one leaves the company of OWN ones: 80 each where it is quiet, 60 where it is FULL
+        for (int own = 0; own < 6; own++) {
+            EverybodyHasTheBook x = Due.of("inn 50 9 0;inn 80 6 0 said 1");
+            for (int g = 0; g < 6; g++) {
+                x.goer(own == g ? 3 : 1, 1, 0);
+            }
+            Due.is("46 GOER " + own + " of six is OWN", x.kept(1, 1), 20);
+        }
     }
 
     private static EverybodyHasTheBook saidZero() {
@@ -327,6 +344,11 @@ public final class YearEdgesTest {
         Due.is("50 just below, and FULL for ever", above.recovers(0), -1);
         EverybodyHasTheBook zero = Due.of("inn 0 1 1;goer 0 1 0");
         Due.is("50 BASE 0", zero.recovers(0), 1);
+        EverybodyHasTheBook against = Due.of("inn 50 1 0 said 50;inn 50 9 40;goer 2 1 0");
+        against.change(0, 0, 49);
+        // FULL for 12 YEARS, till it is at 37 and the other one at 28; then from GOOD 0 to 50 in 17
+        Due.is("50 those AGAINST come, if it isn't in the BOOK", against.recovers(0), 29);
+        Due.is("50 they don't, as it is", against.then(1, 0, 0), 50);
         EverybodyHasTheBook book = Due.of("inn 50 1 1 said 100;inn 50 20 1 said 50;goer 1 1 0;inn 50 1 1");
         book.change(0, 0, 49);
         Due.is("50 nothing in the BOOK: the first choice is the first", book.recovers(0), -1);
